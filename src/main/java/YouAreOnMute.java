@@ -175,12 +175,13 @@ public final class YouAreOnMute {
     if (!now.has(q) || !isOneOfTwo(what)) {
       return NO_SUCH;
     }
-    int teller = now.tellerOf(q);
+    int teller = now.tellerOf(q, false);
     return what == 0 || teller < 0 ? teller : now.secondsToTell(teller);
   }
 
   public int quickest(int q) {
-    return now.has(q) ? now.quickestTeller(q) : NO_SUCH;
+    // Who is muted now could be the one to be unmuted.
+    return now.has(q) ? now.tellerOf(q, true) : NO_SUCH;
   }
 
   public int silence() {
@@ -656,7 +657,7 @@ public final class YouAreOnMute {
 
   private int draw(int below) {
     seed = seed * 1103515245 + 12345;
-    int high = (seed & Integer.MAX_VALUE) / 65536;
+    int high = (seed & 0x7fffffff) / 65536;
     return below > 0 ? high % below : 0;
   }
 
@@ -793,27 +794,22 @@ public final class YouAreOnMute {
       super(kind, figure);
     }
 
-    @Override
     int waits(int lag) {
       return super.waits(lag) + figure;
     }
 
-    @Override
     int yields() {
       return super.yields() + 3;
     }
 
-    @Override
     int notices() {
       return 2 * super.notices();
     }
 
-    @Override
     int price() {
       return super.price() + figure;
     }
 
-    @Override
     void fail() {
       if (figure > 0) {
         throw new IllegalArgumentException("failed politely");
@@ -826,27 +822,22 @@ public final class YouAreOnMute {
       super(kind, figure);
     }
 
-    @Override
     int waits(int lag) {
       return super.waits(lag) - 3;
     }
 
-    @Override
     int yields() {
       return 0;
     }
 
-    @Override
     int notices() {
       return super.notices() - 4;
     }
 
-    @Override
     int noise() {
       return 1;
     }
 
-    @Override
     int price() {
       return super.price() - 2;
     }
@@ -857,12 +848,10 @@ public final class YouAreOnMute {
       super(kind, figure);
     }
 
-    @Override
     int noise() {
       return figure;
     }
 
-    @Override
     int price() {
       return super.price() + 7;
     }
@@ -873,22 +862,18 @@ public final class YouAreOnMute {
       super(kind, figure);
     }
 
-    @Override
     int waits(int lag) {
       return FROZEN_TENTHS;
     }
 
-    @Override
     int notices() {
       return FROZEN_TENTHS;
     }
 
-    @Override
     int price() {
       return super.price() / 2;
     }
 
-    @Override
     void fail() {
       // Who is frozen can't even fail.
     }
@@ -899,27 +884,22 @@ public final class YouAreOnMute {
       super(kind, figure);
     }
 
-    @Override
     int waits(int lag) {
       return 2 * super.waits(lag);
     }
 
-    @Override
     int yields() {
       return 2 * super.yields();
     }
 
-    @Override
     int noise() {
       return 0;
     }
 
-    @Override
     int price() {
       return 2 * super.price();
     }
 
-    @Override
     void fail() {
       if (figure > 0) {
         throw new UnsupportedOperationException("failed shyly");
@@ -932,17 +912,14 @@ public final class YouAreOnMute {
       super(kind, figure);
     }
 
-    @Override
     int waits(int lag) {
       return super.waits(lag) - 2;
     }
 
-    @Override
     int notices() {
       return super.notices() / 2;
     }
 
-    @Override
     int price() {
       return super.price() + figure;
     }
@@ -953,7 +930,6 @@ public final class YouAreOnMute {
       super(kind, figure);
     }
 
-    @Override
     int price() {
       return super.price() + 1;
     }
@@ -1039,7 +1015,7 @@ public final class YouAreOnMute {
       if (!there[q]) {
         return NOT_AS_MUST;
       }
-      int teller = muted[q] ? tellerOf(q) : NONE;
+      int teller = muted[q] ? tellerOf(q, false) : NONE;
       int passing = seconds + (teller >= 0 ? secondsToTell(teller) : 0);
       if (clock + passing > LATEST_CLOCK) {
         return NOT_AS_MUST;
@@ -1135,21 +1111,11 @@ public final class YouAreOnMute {
       return tenthsToTell(q) / 10 + 1;
     }
 
-    int tellerOf(int q) {
+    int tellerOf(int q, boolean orMuted) {
       int first = NONE;
       for (int o = 0; o < size; o++) {
-        if (o != q && canSpeak(o) && (first < 0 || tenthsToTell(o) < tenthsToTell(first))) {
-          first = o;
-        }
-      }
-      return first;
-    }
-
-    // Who is muted now could be the one to be unmuted.
-    int quickestTeller(int q) {
-      int first = NONE;
-      for (int o = 0; o < size; o++) {
-        if (o != q && isListening(o) && (first < 0 || tenthsToTell(o) < tenthsToTell(first))) {
+        if (o != q && isListening(o) && (orMuted || !muted[o])
+            && (first < 0 || tenthsToTell(o) < tenthsToTell(first))) {
           first = o;
         }
       }
@@ -1352,9 +1318,9 @@ public final class YouAreOnMute {
 
     int leastNumber() {
       if (sort == SORT_BYTES) {
-        return Byte.MIN_VALUE;
+        return -128;
       }
-      return sort == SORT_SHORTS ? Short.MIN_VALUE : Integer.MIN_VALUE;
+      return sort == SORT_SHORTS ? -32768 : -2147483648;
     }
   }
 }

@@ -106,6 +106,9 @@ public final class GamesTest {
     c.due("30 against 22", x.chat(3), 0);
     c.due("10 against 10", Checks.told("s150;").chat(1), 0);
     c.due("10 against 11", Checks.told("s160;").chat(1), 1);
+    // 43 tenths and 4 clashes.
+    c.due("80 against 83", Checks.told("s000;s209;").chat(8), 1);
+    c.due("90 against 83", Checks.told("s000;s209;").chat(9), 0);
     c.due("a pause that never ends", Checks.told("s000;s000;").chat(99), 1);
     c.due("nobody there", new YouAreOnMute().chat(99), 1);
     c.due("c 0", x.chat(0), -1);

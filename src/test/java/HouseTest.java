@@ -254,6 +254,9 @@ public final class HouseTest {
     c.due("still muted", x.square(0, 3), 1);
     c.due("hand down all the same", x.square(0, 5), 0);
     c.due("the frozen one's turn is heard", Checks.told("s400;s000;").turns(0, 3), 1);
+    YouAreOnMute second = Checks.told("s000;s000;m1;");
+    c.due("told by the first one", second.turns(1, 5), 1);
+    c.due("and muted no more", second.square(1, 3), 0);
     YouAreOnMute same = Checks.told("s000;s001;s300;s010;m0;");
     same.turns(0, 1);
     c.due("of 11, 10 and 11 tenths", same.count(1), 3);

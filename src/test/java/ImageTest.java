@@ -4,6 +4,7 @@ public final class ImageTest {
 
   public static void main(String[] args) {
     image();
+    squaresAreNewAgain();
     shelvesStay();
     counts();
     c.end();
@@ -30,6 +31,20 @@ public final class ImageTest {
     c.due("all as it was once more", Checks.all(x).equals(first) ? 1 : 0, 1);
     c.due("waits as they were", x.square(1, 7), 9);
     c.due("the order of hands", x.next(0), 1);
+  }
+
+  private static void squaresAreNewAgain() {
+    YouAreOnMute x = new YouAreOnMute();
+    x.image();
+    Checks.tell(x, "s399;m0;l0;h0;o0;");
+    x.restore();
+    Checks.tell(x, "s000;");
+    c.due("not muted", x.square(0, 3), 0);
+    c.due("there", x.square(0, 4), 1);
+    c.due("no hand up", x.square(0, 5), 0);
+    c.due("spirit", x.square(0, 6), 10);
+    c.due("waits", x.square(0, 7), 5);
+    c.due("hands", x.count(4), 0);
   }
 
   private static void shelvesStay() {
@@ -60,6 +75,9 @@ public final class ImageTest {
     x.goes(4);
     c.due("the other eager one's, too", x.count(7), 7);
     c.due("who can speak", x.count(5), 23);
+    x.mutes(0);
+    c.due("the first one muted, too", x.count(2), 1);
+    c.due("noise of the first one", Checks.told("s350;s300;").count(7), 5);
     c.due("-1", x.count(-1), -1);
     c.due("8", x.count(8), -1);
     c.due("far", x.count(Integer.MAX_VALUE), -1);

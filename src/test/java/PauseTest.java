@@ -82,6 +82,11 @@ public final class PauseTest {
     c.due("who isn't there makes none", x.rule(3, 1, 1), 9);
     c.due("and hears none", x.rule(3, 1, 0), 1);
     c.due("frozen ones don't hear", Checks.told("s000;s400;s000;").rule(0, 2, 0), 1);
+    YouAreOnMute cooks = Checks.told("s390;s390;s000;m0;");
+    c.due("the first one hears, too", cooks.rule(1, 0, 0), 2);
+    c.due("the first one's noise, not muted", cooks.rule(2, 1, 1), 18);
+    c.due("9 is borne", cooks.rule(2, 1, 0), 2);
+    c.due("10 is not", Checks.told("s390;s200;s000;s000;").rule(3, 0, 0), 2);
     c.due("q -1", x.rule(-1, 0, 0), -1);
     c.due("q 4", x.rule(4, 0, 0), -1);
     c.due("rule -1", x.rule(0, -1, 0), -1);
@@ -130,6 +135,7 @@ public final class PauseTest {
     c.due("never", x.told(0, 1), -4);
     c.due("to one not there", x.told(2, 0), 0);
     c.due("of several the least", Checks.told("s000;s010;s001;").told(0, 0), 1);
+    c.due("the first of several, the least", Checks.told("s000;s090;s000;").told(2, 0), 0);
     c.due("q -1", x.told(-1, 0), -1);
     c.due("q 5", x.told(5, 0), -1);
     c.due("what -1", x.told(0, -1), -1);
@@ -150,6 +156,7 @@ public final class PauseTest {
     c.due("who isn't muted can, too", x.quickest(1), 0);
     c.due("alone", Checks.told("s000;").quickest(0), -4);
     c.due("of several the least", Checks.told("s000;s010;s010;").quickest(0), 1);
+    c.due("the first of several, the least", Checks.told("s000;s090;s000;").quickest(2), 0);
     c.due("by tenths: 9 and 8", Checks.told("s000;s203;s202;").quickest(0), 2);
     c.due("q -1", x.quickest(-1), -1);
     c.due("q 5", x.quickest(5), -1);
@@ -199,5 +206,8 @@ public final class PauseTest {
     c.due("d -1", x.again(0, 1, -1), -1);
     c.due("d 10", x.again(0, 1, 10), -1);
     c.due("alone", Checks.told("s000;").again(0, 50, 9), 1);
+    YouAreOnMute last = Checks.told("s000;s000;s000;m0;");
+    c.due("the first one can't speak: 20 against 10 and 9", last.again(2, 20, 9), 0);
+    c.due("18 against 9 and 9", last.again(2, 18, 9), 1);
   }
 }

@@ -43,6 +43,9 @@ public final class ShelvesTest {
     c.due("shorter", x.put(0, 99, 7), -13);
     x.row(0, Checks.SHORTS, 100);
     c.due("0 at first", x.element(0, 99), 0);
+    Checks.fill(x, 0, Checks.SHORTS, 8, 9);
+    x.row(0, Checks.SHORTS, 2);
+    c.due("0 again", x.element(0, 0) + x.element(0, 1), 0);
     c.due("empty", x.row(0, Checks.BYTES, 0), 0);
     c.due("empty, no place", x.put(0, 0, 0), -13);
     c.due("shelf -1", x.row(-1, 0, 0), -1);
@@ -155,6 +158,9 @@ public final class ShelvesTest {
     c.due("from a person to nothing", x.copy(3, 0, 4, 0, 0), -11);
     c.due("from a person", x.copy(3, 0, 0, 0, 0), -12);
     c.due("to a person", x.copy(0, 0, 3, 0, 0), -12);
+    x.row(5, Checks.BYTES, 0);
+    c.due("from a person to bytes", x.copy(3, 0, 5, 0, 0), -12);
+    c.due("to a person from bytes", x.copy(5, 0, 3, 0, 0), -12);
     c.due("a person to itself", x.copy(3, 0, 3, 0, 0), -12);
     c.due("another sort", x.copy(0, 0, 2, 0, 1), -12);
     int max = Integer.MAX_VALUE;
@@ -172,7 +178,7 @@ public final class ShelvesTest {
     // Kind, figure, cost, failure.
     int[][] due = {{0, 0, 4, -15}, {0, 5, 4, 5}, {1, 0, 4, -15}, {1, 5, 9, 105}, {2, 0, 2, -15},
         {2, 5, 2, 5}, {3, 0, 11, -15}, {3, 5, 11, 5}, {4, 0, 2, -15}, {4, 5, 2, -15}, {5, 0, 8, -15},
-        {5, 5, 18, 218}, {6, 0, 2, -15}, {6, 5, 7, 5}, {7, 0, 3, -15}, {7, 5, 3, -15}};
+        {5, 5, 18, 218}, {0, 1, 4, 1}, {1, 1, 5, 101}, {5, 1, 10, 210}, {6, 0, 2, -15}, {6, 5, 7, 5}, {7, 0, 3, -15}, {7, 5, 3, -15}};
     YouAreOnMute x = new YouAreOnMute();
     for (int[] one : due) {
       x.keep(2, 1, one[0], one[1]);
