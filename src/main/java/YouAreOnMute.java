@@ -940,6 +940,7 @@ public final class YouAreOnMute {
     final Person[] who = new Person[MOST_SQUARES];
     final int[] lag = new int[MOST_SQUARES];
     final int[] waits = new int[MOST_SQUARES];
+    final int[] telling = new int[MOST_SQUARES];
     final boolean[] muted = new boolean[MOST_SQUARES];
     final boolean[] there = new boolean[MOST_SQUARES];
     final int[] spirit = new int[MOST_SQUARES];
@@ -953,6 +954,7 @@ public final class YouAreOnMute {
         who[q] = other.who[q];
         lag[q] = other.lag[q];
         waits[q] = other.waits[q];
+        telling[q] = other.telling[q];
         muted[q] = other.muted[q];
         there[q] = other.there[q];
         spirit[q] = other.spirit[q];
@@ -983,6 +985,7 @@ public final class YouAreOnMute {
     void setLag(int q, int ownLag) {
       lag[q] = ownLag;
       waits[q] = who[q].waits(ownLag);
+      telling[q] = who[q].notices() + ownLag;
     }
 
     int flipMuted(int q) {
@@ -1103,19 +1106,15 @@ public final class YouAreOnMute {
       return many;
     }
 
-    int tenthsToTell(int q) {
-      return who[q].notices() + lag[q];
-    }
-
     int secondsToTell(int q) {
-      return tenthsToTell(q) / 10 + 1;
+      return telling[q] / 10 + 1;
     }
 
     int tellerOf(int q, boolean orMuted) {
       int first = NONE;
       for (int o = 0; o < size; o++) {
         if (o != q && isListening(o) && (orMuted || !muted[o])
-            && (first < 0 || tenthsToTell(o) < tenthsToTell(first))) {
+            && (first < 0 || telling[o] < telling[first])) {
           first = o;
         }
       }
@@ -1128,7 +1127,7 @@ public final class YouAreOnMute {
 
     boolean canHaveAnswered(int q, int tenths) {
       int soonest = waits[q];
-      return tenths >= soonest && tenths <= soonest + tenthsToTell(q);
+      return tenths >= soonest && tenths <= soonest + telling[q];
     }
 
     int takes(int q) {
