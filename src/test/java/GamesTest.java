@@ -109,6 +109,9 @@ public final class GamesTest {
     // 43 tenths and 4 clashes.
     c.due("80 against 83", Checks.told("s000;s209;").chat(8), 1);
     c.due("90 against 83", Checks.told("s000;s209;").chat(9), 0);
+    // 58 tenths and 5 clashes.
+    c.due("100 against 108", Checks.told("s000;s000;s190;").chat(10), 1);
+    c.due("110 against 108", Checks.told("s000;s000;s190;").chat(11), 0);
     c.due("a pause that never ends", Checks.told("s000;s000;").chat(99), 1);
     c.due("nobody there", new YouAreOnMute().chat(99), 1);
     c.due("c 0", x.chat(0), -1);

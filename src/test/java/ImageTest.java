@@ -78,6 +78,7 @@ public final class ImageTest {
     x.mutes(0);
     c.due("the first one muted, too", x.count(2), 1);
     c.due("noise of the first one", Checks.told("s350;s300;").count(7), 5);
+    c.due("the first one not there", Checks.told("s000;s000;o0;").count(3), 2);
     c.due("-1", x.count(-1), -1);
     c.due("8", x.count(8), -1);
     c.due("far", x.count(Integer.MAX_VALUE), -1);
