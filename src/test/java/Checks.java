@@ -16,21 +16,48 @@ final class Checks {
   private final String name;
   private int asked = 0;
   private int wrong = 0;
+  private String sentence = "";
+  private int sentences = 0;
+  private int askedOfSentence = 1;
 
   Checks(String name) {
     this.name = name;
   }
 
-  void due(String what, long got, long want) {
-    asked++;
-    if (got != want) {
+  /** The checks from here on hold to this sentence of the document. */
+  void sentence(String words) {
+    endSentence();
+    sentence = words;
+    sentences++;
+    askedOfSentence = 0;
+  }
+
+  // A sentence that nothing is asked of would pass unseen.
+  private void endSentence() {
+    if (askedOfSentence == 0) {
       wrong++;
-      System.out.println(name + ": " + what + " answered " + got + ", due is " + want);
+      System.out.println(name + ": nothing was asked of \"" + sentence + "\"");
     }
   }
 
+  void due(String what, long got, long want) {
+    asked++;
+    askedOfSentence++;
+    if (got != want) {
+      wrong++;
+      System.out.println(name + ": " + what + " answered " + got + ", due is " + want
+          + (sentence.isEmpty() ? "" : " (\"" + sentence + "\")"));
+    }
+  }
+
+  void same(String what, String got, String want) {
+    due(what + " [" + got + "] as [" + want + "]", got.equals(want) ? 1 : 0, 1);
+  }
+
   void end() {
-    System.out.println(name + ": " + asked + " answers, " + wrong + " not as due");
+    endSentence();
+    System.out.println(name + ": " + asked + " answers" + (sentences > 0 ? " to " + sentences
+        + " sentences" : "") + ", " + wrong + " not as due");
     if (wrong > 0 || asked == 0) {
       System.exit(1);
     }
