@@ -20,6 +20,7 @@ public final class SquaresEdgesTest {
     whatOfSquare();
     handOfSquare();
     comesStays();
+    comesRefused();
     mutes();
     goes();
     hands();
@@ -294,6 +295,37 @@ public final class SquaresEdgesTest {
     x.keep(0, 0, 0, 0);
     c.due("he is no more on the shelf, but in his square", x.square(0, 0), 5);
     c.due("waits as he did", x.square(0, 7), 16);
+  }
+
+  private static void comesRefused() {
+    c.sentence("comes: -1, -11, -12 (a ROW), -2");
+    int[] shelves = {-1, 8, MIN, MAX};
+    int[] lags = {-1, 10, MIN, MAX};
+    for (int n = 0; n <= 6; n += 6) {
+      YouAreOnMute x = Checks.told("s000;".repeat(n));
+      x.keep(0, 0, 0, 0);
+      x.keep(1, 1, Checks.COOK, 2);
+      x.row(2, Checks.BYTES, 0);
+      x.row(3, Checks.INTS, 100);
+      String before = Checks.all(x);
+      for (int d : shelves) {
+        c.due("shelf " + d + " with " + n, x.comes(d, 0), -1);
+        c.due("shelf " + d + ", lag 10, with " + n, x.comes(d, 10), -1);
+      }
+      for (int lag : lags) {
+        for (int d = 0; d <= 3; d++) {
+          c.due("lag " + lag + " ahead of shelf " + d + " with " + n, x.comes(d, lag), -1);
+        }
+      }
+      c.due("nothing, ahead of no room, with " + n, x.comes(0, 0), -11);
+      c.due("a row, ahead of no room, with " + n, x.comes(2, 0), -12);
+      c.due("a hundred, ahead of no room, with " + n, x.comes(3, 9), -12);
+      if (n == 6) {
+        c.due("no room", x.comes(1, 0), -2);
+      }
+      c.same("all", Checks.all(x), before);
+      c.due("the cook with " + n, x.comes(1, 9), n == 6 ? -2 : n);
+    }
   }
 
   private static void mutes() {
