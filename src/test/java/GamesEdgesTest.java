@@ -178,6 +178,9 @@ public final class GamesEdgesTest {
     c.due("50 against 46", Checks.told("s599;").chat(5), 0);
     c.due("20 against 12 and 10", Checks.told("s000;s100;").chat(2), 1);
     c.due("30 against 12 and 10", Checks.told("s000;s100;").chat(3), 0);
+    // 5 and 6, and one clash: 21.
+    c.due("20 against 11 and 10", Checks.told("s000;s000;s110;").chat(2), 1);
+    c.due("30 against 11 and 10", Checks.told("s000;s000;s110;").chat(3), 0);
     // 9 and 11, and one clash: 30.
     c.due("30 against 20 and 10", Checks.told("s004;s140;").chat(3), 0);
     c.due("20 against 20 and 10", Checks.told("s004;s140;").chat(2), 1);

@@ -158,6 +158,8 @@ public final class RulesEdgesTest {
       Checks.come(x, one[0], one[1], one[2]);
       c.due("kind " + one[0] + " figure " + one[1] + " lag " + one[2], x.told(0, 1), one[3]);
     }
+    c.due("by the first of two", Checks.told("s000;s000;").told(1, 1), 2);
+    c.due("by the first of six", Checks.told("s599;s400;s400;s400;s400;s400;").told(5, 1), 5);
   }
 
   private static void toldNobody() {
@@ -297,6 +299,9 @@ public final class RulesEdgesTest {
     x.mutes(0);
     c.due("one himself is no other: 54", x.again(0, 54, 9), 1);
     c.due("one himself is no other: 55", x.again(0, 55, 9), 0);
+    c.due("the first one can, for the last", Checks.told("s000;s000;").again(1, 2, 0), 0);
+    c.due("the first one can't, for the last", Checks.told("s000;s000;s000;m0;").again(2, 2, 1), 1);
+    c.due("the last one can't, for the first", Checks.told("s000;s000;s000;m2;").again(0, 2, 1), 1);
   }
 
   private static void againRange() {

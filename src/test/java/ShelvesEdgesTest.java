@@ -213,8 +213,17 @@ public final class ShelvesEdgesTest {
         c.due("element behind the last", thrown(x, 0, n), 2);
       }
     }
-    c.sentence("-1 (n above 100)");
+    c.sentence("SHELF d gets a ROW (in place of what it held)");
     YouAreOnMute x = filled();
+    for (int d = 0; d <= 5; d++) {
+      c.due("a row for shelf " + d, x.row(d, Checks.SHORTS, 1), 0);
+      c.due("no one any more, " + d, x.cost(d), -12);
+      c.due("who could fail, " + d, x.toss(d), -12);
+      c.due("or come, " + d, x.comes(d, 0), -12);
+    }
+    c.same("shelves", allHeld(x), "row 0; row 0; row 0; row 0; row 0; row 0; nothing; nothing; ");
+    c.sentence("-1 (n above 100)");
+    x = filled();
     String before = allHeld(x);
     int[] above = {101, 102, 127, 128, 32768, MAX};
     for (int n : above) {
